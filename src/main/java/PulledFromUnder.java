@@ -1014,21 +1014,19 @@ public final class PulledFromUnder {
     }
 
     void passMinutes(int n) {
-      int end = minute + n;
+      minute += n;
       for (int passed = 0; passed < n; passed++) {
         if (!passMinute(0)) {
-          break;
+          return;
         }
       }
-      minute = end;
     }
 
     /**
-     * A MINUTE, with a draught's AIR besides; whether anything is other than before it:
-     * if not, every MINUTE without a draught behind it leaves all as it is, too.
+     * What a MINUTE does to THINGS, with a draught's AIR besides; whether any AIR is other than
+     * before it: if none is, nothing fell, and no later MINUTE without a draught changes a thing.
      */
     boolean passMinute(int draught) {
-      minute++;
       boolean moved = false;
       for (int thing = 0; thing < things; thing++) {
         if (stands(thing)) {
@@ -1037,19 +1035,14 @@ public final class PulledFromUnder {
           air[thing] = next;
         }
       }
-      int falling = outOfHabit();
-      layDown(falling);
-      return moved || falling != 0;
-    }
-
-    private int outOfHabit() {
       int falling = 0;
       for (int thing = 0; thing < things; thing++) {
         if (stands(thing) && air[thing] > habitOf(thing)) {
           falling |= 1 << thing;
         }
       }
-      return falling;
+      layDown(falling);
+      return moved;
     }
 
     int firstToSetUp() {

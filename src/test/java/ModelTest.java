@@ -139,7 +139,8 @@ public final class ModelTest {
       StringBuilder said) {
     long got = of(x, call, a);
     long want = of(m, call, a);
-    said.append("\n").append(NAMES[call]).append(java.util.Arrays.toString(a)).append(" ").append(got);
+    said.append("\n").append(NAMES[call]).append(java.util.Arrays.toString(a));
+    said.append(" ").append(got);
     if (got != want) {
       said.append(", the model ").append(want);
       return false;
