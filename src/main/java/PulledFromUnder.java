@@ -420,17 +420,7 @@ public final class PulledFromUnder {
     if (refusal != FINE) {
       return refuse(refusal);
     }
-    int kinds = 0;
-    int figures = 0;
-    for (int kind = 0; kind < KINDS; kind++) {
-      for (int figure = 0; figure <= MOST_FIGURE; figure++) {
-        if (rowIsSoWith(thing, kind, figure)) {
-          kinds |= 1 << kind;
-          figures |= 1 << figure;
-        }
-      }
-    }
-    return what == 0 ? kinds : figures;
+    return what == 0 ? kindsByRow(thing) : figuresByRow(thing);
   }
 
   public int row(int v) {
@@ -783,6 +773,28 @@ public final class PulledFromUnder {
       less = rest;
     }
     return greater;
+  }
+
+  /** It keeps the FIGURE it has; the KIND alone is another. */
+  private int kindsByRow(int thing) {
+    int kinds = 0;
+    for (int kind = 0; kind < KINDS; kind++) {
+      if (rowIsSoWith(thing, kind, now.figures[thing])) {
+        kinds |= 1 << kind;
+      }
+    }
+    return kinds;
+  }
+
+  /** It keeps the KIND it has; the FIGURE alone is another. */
+  private int figuresByRow(int thing) {
+    int figures = 0;
+    for (int figure = 0; figure <= MOST_FIGURE; figure++) {
+      if (rowIsSoWith(thing, now.kinds[thing], figure)) {
+        figures |= 1 << figure;
+      }
+    }
+    return figures;
   }
 
   private boolean rowIsSoWith(int thing, int kind, int figure) {

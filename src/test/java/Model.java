@@ -604,24 +604,19 @@ final class Model {
     if (isNobody(thing)) return no(-1);
     if (what < 0 || what > 1) return no(-2);
     if (row.size() != world.items.size()) return no(-3);
-    int[] bits = new int[2];
-    for (int kind = 0; kind < 6; kind++) {
-      for (int figure = 0; figure < 10; figure++) {
-        World w = world.twin();
-        w.items.get(thing).kind = KIND_LETTERS.charAt(kind);
-        w.items.get(thing).figure = figure;
-        boolean so = true;
-        for (int i = 0; i < row.size() && so; i++) {
-          int falls = w.falls(i);
-          so = row.get(i) == (falls == -9 ? 99 : falls);
-        }
-        if (so) {
-          bits[0] |= 1 << kind;
-          bits[1] |= 1 << figure;
-        }
+    int bits = 0;
+    for (int other = 0; other < (what == 0 ? 6 : 10); other++) {
+      World w = world.twin();
+      if (what == 0) w.items.get(thing).kind = KIND_LETTERS.charAt(other);
+      if (what == 1) w.items.get(thing).figure = other;
+      boolean so = true;
+      for (int i = 0; i < row.size() && so; i++) {
+        int falls = w.falls(i);
+        so = row.get(i) == (falls == -9 ? 99 : falls);
       }
+      if (so) bits |= 1 << other;
     }
-    return bits[what];
+    return bits;
   }
 
   int row(int v) {

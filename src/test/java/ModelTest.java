@@ -162,7 +162,7 @@ public final class ModelTest {
     return true;
   }
 
-  /** Mostly a ROW that fits some KIND and FIGURE of the THING, else one by lot. */
+  /** Mostly a ROW that fits another KIND or another FIGURE of the THING (at times both). */
   private static void fillRow(PulledFromUnder x, Model m, int thing) {
     if (draw(6) == 0) {
       return;
@@ -171,8 +171,13 @@ public final class ModelTest {
     m.clear();
     Model.World w = m.world.twin();
     if (thing >= 0 && thing < w.items.size()) {
-      w.items.get(thing).kind = Model.KIND_LETTERS.charAt(draw(6));
-      w.items.get(thing).figure = draw(10);
+      int other = draw(5);
+      if (other != 1 && other != 2) {
+        w.items.get(thing).kind = Model.KIND_LETTERS.charAt(draw(6));
+      }
+      if (other != 3 && other != 4) {
+        w.items.get(thing).figure = draw(10);
+      }
     }
     for (int i = 0; i < w.items.size(); i++) {
       int falls = draw(40) == 0 ? draw(100) : w.falls(i);
