@@ -8,6 +8,7 @@ public final class PulledFromUnder {
   private static final int MOST_AHEAD = 99;
   private static final int MOST_AT_A_TIME = 60;
   private static final int LAST_MINUTE = 999;
+  private static final int WITHOUT_SIGN = 0x7FFFFFFF;
 
   private static final int THING = 0;
   private static final int GLASS = 1;
@@ -835,7 +836,7 @@ public final class PulledFromUnder {
 
   private int drawBelow(int m) {
     seed = seed * 1664525 + 1013904223;
-    return m > 0 ? (seed & Integer.MAX_VALUE) / 256 % m : 0;
+    return m > 0 ? (seed & WITHOUT_SIGN) / 256 % m : 0;
   }
 
   /** THINGS, FLOOR and MINUTE as they are, as they are thought to be, or as the IMAGE has them. */
