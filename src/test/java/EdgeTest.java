@@ -28,6 +28,7 @@ public final class EdgeTest {
     tenMinutesOfOrder();
     leastSpeedTenWouldDo();
     ofSeveralTheFirst();
+    twoWithoutAPair();
     propAtHabit();
     watchedByOne();
     draughtsAndHabit();
@@ -286,6 +287,26 @@ public final class EdgeTest {
     CHECK.due("key: the least", held.key(4), 0);
     CHECK.due("pullMost: the least", Check.told("tt9;ob00;tt9;").pullMost(2, 0, 1), 1);
     CHECK.due("pullMost: more", Check.told("tt9;ob00;ob00;tt9;").pullMost(3, 0, 1), 6);
+  }
+
+  /**
+   * With two watchers: a and b fall in the first MINUTE, unless PULLED, and are seen in the next;
+   * what is ON one falls in the third, if that one is PULLED now. So behind 3 MINUTES 2 STAND
+   * if neither pulls, 1 if one of them does, the 2 watchers if both do: no pair is kept by both.
+   */
+  private static void twoWithoutAPair() {
+    two("tw9;tt0;tt0;ot61;ot62;f9;", 3, 1, 2, 1);
+    two("tw9;tw9;tt0;tt0;ot62;ot63;f9;", 2, 2, 3, 0);
+    two("tw9;tw9;tt0;tt0;ot62;ot63;f9;", 3, 2, 3, -9);
+    two("tw9;tw9;tt0;tt0;ot62;ot63;f9;", 3, 3, 2, -9);
+    two("tw9;tw9;tt0;tt0;ot62;ot63;f9;", 4, 2, 3, 0);
+    two("tw9;tw9;tw9;tt0;tt0;ot63;ot64;f9;", 3, 3, 4, -9);
+    // what is ON a does not fall by then: 2 STAND if neither or a pulls, 1 if b does, 3 if both
+    two("tw9;tw9;tt0;tt0;ot92;ot63;f9;", 3, 2, 3, 10);
+  }
+
+  private static void two(String text, int n, int a, int b, int want) {
+    CHECK.due(text + " two behind " + n, Check.told(text).two(a, b, n), want);
   }
 
   /** Each that STANDS on nothing, by itself. */

@@ -139,7 +139,6 @@ public final class SearchTest {
     CHECK.dueRefusals("order", x, 7, 2, 0, 1, 0, 1);
   }
 
-  /** None of the pairs being kept by both can't be brought about: -9 is not tested. */
   private static void promise27() {
     PulledFromUnder x = Check.told("tt9;tt9;ot01;ot01;");
     CHECK.due("the other pulls", x.two(0, 1, 1), 1);
