@@ -1044,7 +1044,7 @@ public final class PulledFromUnder {
       for (int thing = 0; thing < things; thing++) {
         if (stands(thing)) {
           int next = hasGround(thing) ? 0 : air[thing] + 1 + draught;
-          moved |= next != air[thing];
+          moved = moved || next != air[thing];
           air[thing] = next;
         }
       }
